@@ -3,7 +3,8 @@ import java.util.List;
 
 /**
  * Plays many generated runs of calls against a second comparer that follows the document's words:
- * it puts received names into the processes and tries out every game to its end.
+ * it puts received names into the processes and tries out every game to its end. It asks one object
+ * for more than 512 calls, of which the document promises nothing: this class counts no calls.
  */
 public final class OracleTest {
 
