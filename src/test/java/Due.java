@@ -25,6 +25,10 @@ final class Due {
         }
     }
 
+    int wrong() {
+        return wrong;
+    }
+
     /** Asks for the whole text of a process, sign by sign, and for the place behind it. */
     void text(NamePassingComparer c, int p, String want) {
         is("textLength(" + p + ")", c.textLength(p), want.length());

@@ -30,6 +30,7 @@ public final class FaceTest {
         methods();
         constants();
         nestedClasses();
+        sizes();
         source();
         due.end();
     }
@@ -92,6 +93,30 @@ public final class FaceTest {
         for (Method method : NamePassingComparer.class.getDeclaredMethods()) {
             due.holds(method + " has a name of its own", !Modifier.isPrivate(method.getModifiers())
                     || !names.contains(method.getName()));
+        }
+    }
+
+    /** The numbers of rule 11 that can be counted from outside. */
+    private static void sizes() {
+        Class<?>[] inside = NamePassingComparer.class.getDeclaredClasses();
+        due.holds("at most 12 classes", inside.length < 12);
+        sizesOf(NamePassingComparer.class);
+        for (Class<?> one : inside) {
+            sizesOf(one);
+        }
+    }
+
+    private static void sizesOf(Class<?> one) {
+        int fields = 0;
+        for (Field field : one.getDeclaredFields()) {
+            boolean isStatic = Modifier.isStatic(field.getModifiers());
+            due.holds(field + " is final if it is static",
+                    !isStatic || Modifier.isFinal(field.getModifiers()));
+            fields += isStatic ? 0 : 1;
+        }
+        due.holds("at most 20 fields in " + one, fields <= 20);
+        for (Method method : one.getDeclaredMethods()) {
+            due.holds("at most 7 parameters of " + method, method.getParameterCount() <= 7);
         }
     }
 

@@ -3,11 +3,15 @@ import java.util.List;
 
 /**
  * Plays many generated runs of calls against a second comparer that follows the document's words:
- * it puts received names into the processes and tries out every game to its end. It asks one object
- * for more than 512 calls, of which the document promises nothing: this class counts no calls.
+ * it puts received names into the processes and tries out every game to its end. No object is asked
+ * more than 512 calls: a wide run, which asks everything, goes on with a new object that holds the
+ * same processes; a long run plays one object to its 512th call, with wrong arguments among them.
  */
 public final class OracleTest {
 
+    private static final int MOST_CALLS = 512;
+    private static final int INVALID = -1;
+    private static final int NOT_CLOSED = -2;
     private static final int NONE = -4;
     private static final Due due = new Due("OracleTest");
 
@@ -109,6 +113,10 @@ public final class OracleTest {
             return moves;
         }
 
+        int names() {
+            return kind == 1 ? 99 : 10 * x + (kind == 2 ? y : 9);
+        }
+
         boolean agrees(Node other) {
             return kind == other.kind && (kind == 1 || x == other.x) && (kind != 2 || y == other.y);
         }
@@ -172,7 +180,8 @@ public final class OracleTest {
     }
 
     private final List<Node> nodes = new ArrayList<>();
-    private final NamePassingComparer c = new NamePassingComparer();
+    private NamePassingComparer object = new NamePassingComparer();
+    private int calls = 0;
     private final Numbers numbers;
     private final int run;
     private static final int[] related = new int[3];
@@ -186,8 +195,37 @@ public final class OracleTest {
         nodes.add(new Node(0, 0, 0, null, null));
     }
 
+    /** Answers the object for one more call. */
+    private NamePassingComparer c() {
+        if (calls == MOST_CALLS) {
+            object = new NamePassingComparer();
+            calls = 0;
+            for (int p = 1; p < nodes.size(); p++) {
+                Node node = nodes.get(p);
+                int second = node.q() == null ? 0 : placeOf(node.q());
+                due.is("run " + run + ": build " + p + " again",
+                        call(node.kind(), outer(node.x()), outer(node.y()), placeOf(node.p()), second), p);
+            }
+        }
+        calls++;
+        return object;
+    }
+
+    /** Two processes with the same text are still two. */
+    private int placeOf(Node node) {
+        int place = 0;
+        while (nodes.get(place) != node) {
+            place++;
+        }
+        return place;
+    }
+
     private static int inner(int name) {
         return name < 3 ? name : VARIABLE + name - 3;
+    }
+
+    private static int outer(int name) {
+        return name < VARIABLE ? name : name - VARIABLE + 3;
     }
 
     private int anyName() {
@@ -263,8 +301,7 @@ public final class OracleTest {
                 : kind == 3 ? new Node(3, inner(x), 0, first, null)
                 : kind == 4 ? new Node(4, inner(x), inner(y), first, null)
                 : new Node(5, 0, 0, first, nodes.get(q));
-        int got = kind == 1 ? c.tau(p) : kind == 2 ? c.output(x, y, p) : kind == 3 ? c.input(x, p)
-                : kind == 4 ? c.match(x, y, p) : c.sum(p, q);
+        int got = call(kind, x, y, p, q);
         boolean fits = nodes.size() < 24 && made.depth() <= 3 && made.breadth() <= 3;
         due.is("run " + run + ": build " + kind, got, fits ? nodes.size() : -3);
         if (fits) {
@@ -272,11 +309,21 @@ public final class OracleTest {
         }
     }
 
-    private void removeSome() {
-        int times = 1 + numbers.below(6);
+    private int call(int kind, int x, int y, int p, int q) {
+        switch (kind) {
+            case 1: return c().tau(p);
+            case 2: return c().output(x, y, p);
+            case 3: return c().input(x, p);
+            case 4: return c().match(x, y, p);
+            default: return c().sum(p, q);
+        }
+    }
+
+    private void removeSome(int most) {
+        int times = 1 + numbers.below(most);
         for (int i = 0; i < times; i++) {
             int size = nodes.size();
-            due.is("run " + run + ": removeLast()", c.removeLast(), size == 1 ? -4 : size - 1);
+            due.is("run " + run + ": removeLast()", c().removeLast(), size == 1 ? -4 : size - 1);
             if (size > 1) {
                 nodes.remove(size - 1);
             }
@@ -284,7 +331,7 @@ public final class OracleTest {
     }
 
     private void compareAll() {
-        due.is("processCount()", c.processCount(), nodes.size());
+        due.is("processCount()", c().processCount(), nodes.size());
         for (int relation = 0; relation < 3; relation++) {
             int classes = 0;
             for (int p = 0; p < nodes.size(); p++) {
@@ -297,12 +344,12 @@ public final class OracleTest {
                 }
                 boolean closed = nodes.get(p).need() == 0;
                 due.is("run " + run + ": representative(" + p + ", " + relation + ")",
-                        c.representative(p, relation), closed ? lowest : -2);
+                        c().representative(p, relation), closed ? lowest : -2);
                 if (lowest == p) {
                     classes++;
                 }
             }
-            due.is("run " + run + ": classCount(" + relation + ")", c.classCount(relation), classes);
+            due.is("run " + run + ": classCount(" + relation + ")", c().classCount(relation), classes);
         }
     }
 
@@ -311,24 +358,24 @@ public final class OracleTest {
         Node second = nodes.get(q);
         String call = "run " + run + ": (" + first.text() + ", " + second.text() + ", " + relation + ")";
         if (first.need() > 0 || second.need() > 0) {
-            due.is("areRelated" + call, c.areRelated(p, q, relation), -2);
-            due.is("rounds" + call, c.rounds(p, q, relation), -2);
-            due.is("firstAttack" + call, c.firstAttack(p, q, relation), -2);
+            due.is("areRelated" + call, c().areRelated(p, q, relation), -2);
+            due.is("rounds" + call, c().rounds(p, q, relation), -2);
+            due.is("firstAttack" + call, c().firstAttack(p, q, relation), -2);
             return -2;
         }
         int rounds = rounds(first, second, relation);
         int attack = rounds == NONE ? NONE : firstAttack(first, second, 0, relation, rounds);
         // The order of the questions changes, so that no answer rests on an earlier one.
         if (numbers.below(2) == 0) {
-            due.is("firstAttack" + call, c.firstAttack(p, q, relation), attack);
+            due.is("firstAttack" + call, c().firstAttack(p, q, relation), attack);
         }
-        due.is("areRelated" + call, c.areRelated(p, q, relation), rounds == NONE ? 1 : 0);
-        due.is("rounds" + call, c.rounds(p, q, relation), rounds);
-        due.is("firstAttack" + call, c.firstAttack(p, q, relation), attack);
-        if (relation == 0 && c.areRelated(p, q, 0) > c.areRelated(p, q, 1)) {
+        due.is("areRelated" + call, c().areRelated(p, q, relation), rounds == NONE ? 1 : 0);
+        due.is("rounds" + call, c().rounds(p, q, relation), rounds);
+        due.is("firstAttack" + call, c().firstAttack(p, q, relation), attack);
+        if (relation == 0 && c().areRelated(p, q, 0) > c().areRelated(p, q, 1)) {
             groundNotEarly++;
         }
-        if (relation == 2 && c.areRelated(p, q, 1) > c.areRelated(p, q, 2)) {
+        if (relation == 2 && c().areRelated(p, q, 1) > c().areRelated(p, q, 2)) {
             earlyNotLate++;
         }
         if (rounds == NONE) {
@@ -342,59 +389,199 @@ public final class OracleTest {
     private void askProperties() {
         for (int p = 0; p < nodes.size(); p++) {
             Node node = nodes.get(p);
-            due.is("kindOf " + node.text(), c.kindOf(p), node.kind());
-            due.is("depthOf " + node.text(), c.depthOf(p), node.depth());
-            due.is("needOf " + node.text(), c.needOf(p), node.need());
-            due.text(c, p, node.text());
+            due.is("kindOf " + node.text(), c().kindOf(p), node.kind());
+            due.is("depthOf " + node.text(), c().depthOf(p), node.depth());
+            due.is("needOf " + node.text(), c().needOf(p), node.need());
+            askText(p, node.text());
             askPart(p, 0, node.p());
             askPart(p, 1, node.q());
             askMoves(p, node);
         }
     }
 
+    private void askText(int p, String text) {
+        due.is("textLength of " + text, c().textLength(p), text.length());
+        for (int i = 0; i < text.length(); i++) {
+            due.is("textAt " + i + " of " + text, c().textAt(p, i), text.charAt(i));
+        }
+        due.is("textAt behind " + text, c().textAt(p, text.length()), NONE);
+    }
+
     private void askPart(int p, int index, Node part) {
-        int got = c.partOf(p, index);
+        int got = c().partOf(p, index);
         due.holds("partOf(" + p + ", " + index + ")",
                 part == null ? got == NONE : got >= 0 && got < p && nodes.get(got) == part);
     }
 
     private void askMoves(int p, Node node) {
         if (node.need() > 0) {
-            due.is("moveCount " + node.text(), c.moveCount(p), -2);
-            due.is("moveKind " + node.text(), c.moveKind(p, 0), -2);
-            due.is("moveNames " + node.text(), c.moveNames(p, 0), -2);
-            due.is("moveTarget " + node.text(), c.moveTarget(p, 0), -2);
+            due.is("moveCount " + node.text(), c().moveCount(p), -2);
+            due.is("moveKind " + node.text(), c().moveKind(p, 0), -2);
+            due.is("moveNames " + node.text(), c().moveNames(p, 0), -2);
+            due.is("moveTarget " + node.text(), c().moveTarget(p, 0), -2);
             return;
         }
         List<Node> moves = node.moves();
-        due.is("moveCount " + node.text(), c.moveCount(p), moves.size());
+        due.is("moveCount " + node.text(), c().moveCount(p), moves.size());
         for (int i = 0; i < moves.size(); i++) {
             Node move = moves.get(i);
-            int names = move.kind() == 1 ? 99 : 10 * move.x() + (move.kind() == 2 ? move.y() : 9);
-            due.is("moveKind " + node.text(), c.moveKind(p, i), move.kind());
-            due.is("moveNames " + node.text(), c.moveNames(p, i), names);
-            int target = c.moveTarget(p, i);
+            due.is("moveKind " + node.text(), c().moveKind(p, i), move.kind());
+            due.is("moveNames " + node.text(), c().moveNames(p, i), move.names());
+            int target = c().moveTarget(p, i);
             due.holds("moveTarget " + node.text(),
                     target >= 0 && target < p && nodes.get(target) == move.p());
         }
-        due.is("moveKind past the last", c.moveKind(p, moves.size()), NONE);
-        due.is("moveNames past the last", c.moveNames(p, moves.size()), NONE);
-        due.is("moveTarget past the last", c.moveTarget(p, moves.size()), NONE);
+        due.is("moveKind past the last", c().moveKind(p, moves.size()), NONE);
+        due.is("moveNames past the last", c().moveNames(p, moves.size()), NONE);
+        due.is("moveTarget past the last", c().moveTarget(p, moves.size()), NONE);
     }
 
-    private void play() {
+    private boolean holds(int p) {
+        return p >= 0 && p < nodes.size();
+    }
+
+    /** A number that stands for a process nearly always. */
+    private int anyNumber() {
+        return numbers.below(30) == 0 ? numbers.below(60) - 30 : anyAmongLast(numbers.below(2) == 0 ? 6 : 24);
+    }
+
+    private void askAny() {
+        int p = anyNumber();
+        int q = anyNumber();
+        int relation = numbers.below(30) == 0 ? numbers.below(9) - 3 : numbers.below(3);
+        int index = numbers.below(5) - 1;
+        switch (numbers.below(10)) {
+            case 0: askBuilding(p, q); break;
+            case 1: askRepresentative(p, relation); break;
+            case 2: askOfProcess(p, index); break;
+            case 3: askMove(p, index); break;
+            default: askPair(p, q, relation); break;
+        }
+    }
+
+    /** Builds that are refused, for a name or a part that there is not, or for the limits. */
+    private void askBuilding(int p, int q) {
+        int far = numbers.below(2) == 0 ? nodes.size() + numbers.below(3) : -1 - numbers.below(3);
+        int name = numbers.below(2) == 0 ? 6 + numbers.below(3) : -1 - numbers.below(3);
+        String of = "run " + run + ": refused ";
+        due.is(of + "tau", c().tau(far), INVALID);
+        due.is(of + "output", c().output(name, 0, p), INVALID);
+        due.is(of + "output", c().output(0, name, p), INVALID);
+        due.is(of + "input", c().input(name, p), INVALID);
+        due.is(of + "match", c().match(1, name, p), INVALID);
+        due.is(of + "sum", c().sum(far, q), INVALID);
+        due.is(of + "sum", c().sum(p, far), INVALID);
+        due.is("run " + run + ": processCount()", c().processCount(), nodes.size());
+        if (nodes.size() == 24) {
+            build(1 + numbers.below(5), 0, 0, anyPart(), anyPart());
+        }
+    }
+
+    private void askOfProcess(int p, int index) {
+        Node node = holds(p) ? nodes.get(p) : null;
+        String of = "run " + run + ": of " + p + " ";
+        due.is(of + "kindOf", c().kindOf(p), node == null ? INVALID : node.kind());
+        due.is(of + "depthOf", c().depthOf(p), node == null ? INVALID : node.depth());
+        due.is(of + "needOf", c().needOf(p), node == null ? INVALID : node.need());
+        int parts = node == null || node.kind() == 0 ? 0 : node.kind() == 5 ? 2 : 1;
+        boolean wrong = node == null || index < 0 || index > 1;
+        due.is(of + "partOf " + index, c().partOf(p, index), wrong ? INVALID : index >= parts ? NONE
+                : placeOf(index == 0 ? node.p() : node.q()));
+        String text = node == null ? "" : node.text();
+        due.is(of + "textLength", c().textLength(p), node == null ? INVALID : text.length());
+        due.is(of + "textAt " + index, c().textAt(p, index), node == null || index < 0 ? INVALID
+                : index < text.length() ? text.charAt(index) : NONE);
+    }
+
+    private void askMove(int p, int index) {
+        int error = !holds(p) ? INVALID : nodes.get(p).need() > 0 ? NOT_CLOSED : 0;
+        List<Node> moves = error < 0 ? List.of() : nodes.get(p).moves();
+        String of = "run " + run + ": of " + p + " ";
+        due.is(of + "moveCount", c().moveCount(p), error < 0 ? error : moves.size());
+        int wrong = index < 0 ? INVALID : error < 0 ? error : index >= moves.size() ? NONE : 0;
+        Node move = wrong < 0 ? null : moves.get(index);
+        due.is(of + "moveKind " + index, c().moveKind(p, index), wrong < 0 ? wrong : move.kind());
+        due.is(of + "moveNames " + index, c().moveNames(p, index), wrong < 0 ? wrong : move.names());
+        due.is(of + "moveTarget " + index, c().moveTarget(p, index), wrong < 0 ? wrong : placeOf(move.p()));
+    }
+
+    private int errorOf(int p, int q, int relation) {
+        if (!holds(p) || !holds(q) || relation < 0 || relation > 2) {
+            return INVALID;
+        }
+        return nodes.get(p).need() > 0 || nodes.get(q).need() > 0 ? NOT_CLOSED : 0;
+    }
+
+    private void askPair(int p, int q, int relation) {
+        int error = errorOf(p, q, relation);
+        if (error == 0) {
+            comparePair(p, q, relation);
+            return;
+        }
+        String of = "run " + run + ": (" + p + ", " + q + ", " + relation + ")";
+        due.is("areRelated" + of, c().areRelated(p, q, relation), error);
+        due.is("rounds" + of, c().rounds(p, q, relation), error);
+        due.is("firstAttack" + of, c().firstAttack(p, q, relation), error);
+    }
+
+    private void askRepresentative(int p, int relation) {
+        int error = errorOf(p, p, relation);
+        int lowest = error < 0 ? error : lowestRelated(p, relation);
+        due.is("run " + run + ": representative(" + p + ", " + relation + ")",
+                c().representative(p, relation), lowest);
+        int classes = relation < 0 || relation > 2 ? INVALID : 0;
+        for (int own = 0; classes >= 0 && own < nodes.size(); own++) {
+            if (nodes.get(own).need() == 0 && lowestRelated(own, relation) == own) {
+                classes++;
+            }
+        }
+        due.is("run " + run + ": classCount(" + relation + ")", c().classCount(relation), classes);
+    }
+
+    private int lowestRelated(int p, int relation) {
+        int q = 0;
+        while (nodes.get(q).need() > 0 || rounds(nodes.get(p), nodes.get(q), relation) != NONE) {
+            q++;
+        }
+        return q;
+    }
+
+    private void buildFirst() {
         if (run % 3 == 1) {
             buildByStages();
         } else if (run % 3 == 2) {
             buildDisputed();
         }
+    }
+
+    /** One object, to its last promised call. */
+    private void playLong() {
+        buildFirst();
+        int dearest = 12;
+        while (calls < MOST_CALLS - dearest) {
+            int turn = numbers.below(12);
+            if (turn == 0) {
+                removeSome(2);
+            } else if (turn < 3) {
+                buildAny();
+            } else {
+                askAny();
+            }
+        }
+        while (calls < MOST_CALLS) {
+            due.is("run " + run + ": processCount()", c().processCount(), nodes.size());
+        }
+    }
+
+    private void playWide() {
+        buildFirst();
         for (int i = 0; i < 26; i++) {
             buildAny();
         }
         compareAll();
         askProperties();
         for (int turn = 0; turn < 2; turn++) {
-            removeSome();
+            removeSome(6);
             for (int i = 0; i < 6; i++) {
                 buildAny();
             }
@@ -404,9 +591,12 @@ public final class OracleTest {
     }
 
     public static void main(String[] args) {
-        int runs = args.length > 0 ? Integer.parseInt(args[0]) : 400;
+        int runs = args.length > 0 ? Integer.parseInt(args[0]) : 300;
         for (int run = 0; run < runs; run++) {
-            new OracleTest(run).play();
+            new OracleTest(run).playWide();
+        }
+        for (int run = 0; run < 10 * runs; run++) {
+            new OracleTest(run).playLong();
         }
         for (int relation = 0; relation < 3; relation++) {
             System.out.println("relation " + relation + ": " + related[relation] + " pairs related");
