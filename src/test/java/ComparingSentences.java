@@ -36,15 +36,6 @@ final class ComparingSentences {
         classCount();
     }
 
-    /** Before anything is built, beside two processes, behind a removed one, and in a full store. */
-    private void noSuchProcess(String call) {
-        s.each("tau(0) = 1; " + call + " = INVALID_ARGUMENT; processCount() = 2", Sentences.NEVER_STORED);
-        s.run(call.replace("#", "1") + " = INVALID_ARGUMENT; tau(0) = 1; output(3, 3, 0) = 2; "
-                + call.replace("#", "3") + " = INVALID_ARGUMENT; removeLast() = 2; "
-                + call.replace("#", "2") + " = INVALID_ARGUMENT; " + call.replace("#", "23") + " = INVALID_ARGUMENT");
-        s.run(Sentences.taus(1, 23) + call.replace("#", "24") + " = INVALID_ARGUMENT; moveCount(23) = 1");
-    }
-
     private void moveCount() {
         s.of("Promise 15", "Counts the moves of a closed process.", "Returns the number of moves;");
         s.run("tau(0) = 1; sum(1, 1) = 2; sum(2, 1) = 3; match(0, 0, 3) = 4; match(0, 1, 3) = 5; sum(0, 2) = 6; "
@@ -52,7 +43,7 @@ final class ComparingSentences {
                 + "moveCount(3) = 3; moveCount(4) = 3; moveCount(5) = 0; moveCount(6) = 2; moveCount(7) = 0; "
                 + "moveCount(8) = 0; moveCount(9) = 2");
         s.of("Promise 15", PROCESS, "INVALID_ARGUMENT if there is no such process;");
-        noSuchProcess("moveCount(#)");
+        s.noSuchProcess("moveCount(#)");
         s.of("Promise 15", "NOT_CLOSED.");
         s.each("match(#, 0, 0) = 1; moveCount(1) = NOT_CLOSED; sum(0, 1) = 2; moveCount(2) = NOT_CLOSED; "
                 + "output(0, #, 0) = 3; moveCount(3) = NOT_CLOSED; input(#, 0) = 4; moveCount(4) = NOT_CLOSED; "
@@ -67,9 +58,9 @@ final class ComparingSentences {
                 + three(method, 1, 0, "TAU", 99, 0) + three(method, 2, 0, "OUTPUT", 12, 1)
                 + three(method, 3, 0, "INPUT", 29, 2));
         s.of(section, PROCESS, MOVE, NO_MOVE);
-        noSuchProcess(method + "(#, 0)");
-        noSuchProcess(method + "(#, 5)");
-        noSuchProcess(method + "(#, -1)");
+        s.noSuchProcess(method + "(#, 0)");
+        s.noSuchProcess(method + "(#, 5)");
+        s.noSuchProcess(method + "(#, -1)");
         s.each("tau(0) = 1; output(3, 3, 0) = 2; " + method + "(0, #) = INVALID_ARGUMENT; " + method
                 + "(1, #) = INVALID_ARGUMENT; " + method + "(2, #) = INVALID_ARGUMENT", "-1", "-2", "-2147483648");
         s.of(section, "NOT_CLOSED;");
@@ -150,9 +141,9 @@ final class ComparingSentences {
         } else {
             s.of(section, PROCESS, OTHER, RELATION, WRONG);
         }
-        noSuchProcess(method + "(#, 0, GROUND)");
-        noSuchProcess(method + "(0, #, EARLY)");
-        noSuchProcess(method + "(#, #, LATE)");
+        s.noSuchProcess(method + "(#, 0, GROUND)");
+        s.noSuchProcess(method + "(0, #, EARLY)");
+        s.noSuchProcess(method + "(#, #, LATE)");
         s.each("tau(0) = 1; " + method + "(0, 1, #) = INVALID_ARGUMENT; " + method + "(1, 0, #) = INVALID_ARGUMENT; "
                 + method + "(0, 0, #) = INVALID_ARGUMENT", WRONG_RELATIONS);
         s.of(section, ONE_OPEN);
@@ -189,7 +180,7 @@ final class ComparingSentences {
                 + "sum(4, 6) = 7; representative(7, GROUND) = 4; representative(7, EARLY) = 4; representative(7, LATE) = 7; "
                 + "representative(6, GROUND) = 3; representative(6, EARLY) = 6; representative(6, LATE) = 6");
         s.of("Promise 22", PROCESS, RELATION, WRONG);
-        noSuchProcess("representative(#, GROUND)");
+        s.noSuchProcess("representative(#, GROUND)");
         s.each("tau(0) = 1; representative(0, #) = INVALID_ARGUMENT; representative(1, #) = INVALID_ARGUMENT; "
                 + "representative(2, #) = INVALID_ARGUMENT", WRONG_RELATIONS);
         s.of("Promise 22", "NOT_CLOSED if p is not closed.");

@@ -48,14 +48,14 @@ final class ProcessSentences {
     private void calls() {
         s.of("What it is", "An object is used for at most 512 calls after it has been made; "
                 + "what later calls answer is free.");
-        s.run(Sentences.repeat(256, "tau(0) = 1; removeLast() = 1; "));
-        s.run(Sentences.taus(1, 23) + Sentences.repeat(244, "removeLast() = 23; tau(0) = 23; ")
+        s.run("tau(0) = 1; removeLast() = 1; ".repeat(256));
+        s.run(Sentences.taus(1, 23) + "removeLast() = 23; tau(0) = 23; ".repeat(244)
                 + "processCount() = 24");
-        s.run(Sentences.repeat(512, "removeLast() = NOT_FOUND; "));
+        s.run("removeLast() = NOT_FOUND; ".repeat(512));
         s.run("tau(0) = 1; input(0, 1) = 2; input(0, 0) = 3; sum(2, 3) = 4; match(3, 1, 1) = 5; "
-                + "input(0, 5) = 6; sum(4, 6) = 7; " + Sentences.repeat(101, "firstAttack(4, 7, LATE) = 1029; "
+                + "input(0, 5) = 6; sum(4, 6) = 7; " + ("firstAttack(4, 7, LATE) = 1029; "
                 + "areRelated(4, 7, EARLY) = 1; classCount(LATE) = 7; sum(7, 1) = LIMIT_REACHED; "
-                + "tau(8) = INVALID_ARGUMENT; "));
+                + "tau(8) = INVALID_ARGUMENT; ").repeat(101));
     }
 
     private void numbers() {

@@ -202,16 +202,7 @@ final class PromiseSentences {
         s.run("tau(0) = 1; output(0, 0, 0) = 2; input(0, 0) = 3; match(0, 0, 0) = 4; sum(0, 0) = 5; kindOf(0) = 0; "
                 + "kindOf(1) = 1; kindOf(2) = 2; kindOf(3) = 3; kindOf(4) = 4; kindOf(5) = 5");
         s.of("Promise 9", PROCESS, NO_SUCH);
-        noSuchProcess("kindOf(#)");
-    }
-
-    /** Before anything is built, beside two processes, behind a removed one, and in a full store. */
-    private void noSuchProcess(String call) {
-        s.each("tau(0) = 1; " + call + " = INVALID_ARGUMENT; processCount() = 2", Sentences.NEVER_STORED);
-        s.run(call.replace("#", "1") + " = INVALID_ARGUMENT; tau(0) = 1; output(3, 3, 0) = 2; "
-                + call.replace("#", "3") + " = INVALID_ARGUMENT; removeLast() = 2; "
-                + call.replace("#", "2") + " = INVALID_ARGUMENT; " + call.replace("#", "23") + " = INVALID_ARGUMENT");
-        s.run(Sentences.taus(1, 23) + call.replace("#", "24") + " = INVALID_ARGUMENT; kindOf(23) = TAU");
+        s.noSuchProcess("kindOf(#)");
     }
 
     private void partOf() {
@@ -222,8 +213,8 @@ final class PromiseSentences {
         s.of("Promise 10", PROCESS, "`index`: 0 for p, 1 for q", WRONG);
         s.each("sum(0, 0) = 1; partOf(1, 0) = 0; partOf(1, 1) = 0; partOf(1, #) = INVALID_ARGUMENT; "
                 + "partOf(0, #) = INVALID_ARGUMENT", "-1", "2", "-2147483648", "2147483647");
-        noSuchProcess("partOf(#, 0)");
-        noSuchProcess("partOf(#, 1)");
+        s.noSuchProcess("partOf(#, 0)");
+        s.noSuchProcess("partOf(#, 1)");
         s.of("Promise 10", "NOT_FOUND if it has no such part.");
         s.run("tau(0) = 1; output(0, 0, 1) = 2; input(0, 1) = 3; match(0, 0, 1) = 4; sum(0, 1) = 5; "
                 + "partOf(0, 0) = NOT_FOUND; partOf(0, 1) = NOT_FOUND; partOf(1, 1) = NOT_FOUND; partOf(2, 1) = NOT_FOUND; "
@@ -237,7 +228,7 @@ final class PromiseSentences {
                 + "depthOf(0) = 0; depthOf(1) = 1; depthOf(2) = 2; depthOf(3) = 3; depthOf(4) = 3; depthOf(5) = 2; "
                 + "depthOf(6) = 0");
         s.of("Promise 11", PROCESS, NO_SUCH);
-        noSuchProcess("depthOf(#)");
+        s.noSuchProcess("depthOf(#)");
     }
 
     private void needOf() {
@@ -245,7 +236,7 @@ final class PromiseSentences {
         s.run("output(5, 0, 0) = 1; input(0, 1) = 2; input(0, 2) = 3; match(3, 0, 0) = 4; input(3, 4) = 5; sum(4, 1) = 6; "
                 + "needOf(0) = 0; needOf(1) = 3; needOf(2) = 2; needOf(3) = 1; needOf(4) = 1; needOf(5) = 1; needOf(6) = 3");
         s.of("Promise 12", PROCESS, NO_SUCH);
-        noSuchProcess("needOf(#)");
+        s.noSuchProcess("needOf(#)");
     }
 
     private void textLength() {
@@ -253,7 +244,7 @@ final class PromiseSentences {
         s.run("tau(0) = 1; output(0, 3, 1) = 2; input(0, 2) = 3; match(0, 1, 3) = 4; sum(1, 4) = 5; textLength(0) = 1; "
                 + "textLength(1) = 3; textLength(2) = 7; textLength(3) = 10; textLength(4) = 15; textLength(5) = 21");
         s.of("Promise 13", PROCESS, NO_SUCH);
-        noSuchProcess("textLength(#)");
+        s.noSuchProcess("textLength(#)");
     }
 
     private void textAt() {
@@ -266,8 +257,8 @@ final class PromiseSentences {
         s.of("Promise 14", PROCESS, "`index`: index of the character, 0 or more", WRONG);
         s.each("tau(0) = 1; textAt(1, #) = INVALID_ARGUMENT; textAt(0, #) = INVALID_ARGUMENT; textAt(0, 0) = 48",
                 "-1", "-2", "-2147483648");
-        noSuchProcess("textAt(#, 0)");
-        noSuchProcess("textAt(#, 99)");
+        s.noSuchProcess("textAt(#, 0)");
+        s.noSuchProcess("textAt(#, 99)");
         s.of("Promise 14", "NOT_FOUND if the text is not so long.");
         s.run("textAt(0, 0) = 48; textAt(0, 1) = NOT_FOUND; textAt(0, 2147483647) = NOT_FOUND; tau(0) = 1; "
                 + "textAt(1, 2) = 48; textAt(1, 3) = NOT_FOUND; sum(1, 0) = 2; textAt(2, 6) = 41; textAt(2, 7) = NOT_FOUND; "

@@ -56,7 +56,7 @@ final class Sentences {
 
     /** Tells which words of the document the runs behind this call test. */
     void of(String section, String... quotes) {
-        due.holds("a run tests: " + sentence, runsOfSentence > 0);
+        lastSentenceHasRuns();
         runsOfSentence = 0;
         sentence = section + ": " + String.join(" .. ", quotes);
         for (String quote : quotes) {
@@ -69,6 +69,11 @@ final class Sentences {
         }
     }
 
+    private void lastSentenceHasRuns() {
+        due.holds("a run tests: " + sentence, runsOfSentence > 0);
+    }
+
+    /** Makes the calls on a new object. */
     void run(String calls) {
         runsOfSentence++;
         NamePassingComparer c = new NamePassingComparer();
@@ -91,6 +96,18 @@ final class Sentences {
         for (String value : values) {
             run(calls.replace("#", value));
         }
+    }
+
+    /**
+     * Asks with # for what no process has as its number: beside one process, before anything is built,
+     * just behind the last one, behind a removed one, and in a full store.
+     */
+    void noSuchProcess(String call) {
+        each("tau(0) = 1; " + call + " = INVALID_ARGUMENT; processCount() = 2", NEVER_STORED);
+        run(call.replace("#", "1") + " = INVALID_ARGUMENT; tau(0) = 1; output(3, 3, 0) = 2; "
+                + call.replace("#", "3") + " = INVALID_ARGUMENT; removeLast() = 2; "
+                + call.replace("#", "2") + " = INVALID_ARGUMENT; " + call.replace("#", "23") + " = INVALID_ARGUMENT");
+        run(taus(1, 23) + call.replace("#", "24") + " = INVALID_ARGUMENT; kindOf(23) = TAU");
     }
 
     private int ask(NamePassingComparer c, String call) {
@@ -166,13 +183,9 @@ final class Sentences {
         return calls.toString();
     }
 
-    static String repeat(int times, String calls) {
-        return calls.repeat(times);
-    }
-
     /** Finds the words of the document that no test has quoted. */
     void end() {
-        of("Errors");
+        lastSentenceHasRuns();
         for (Map.Entry<String, String> section : sections.entrySet()) {
             String name = section.getKey();
             if (!name.startsWith("Promise") && !name.matches("What it is|Processes|Moves|Games.*|Text|Errors")) {
