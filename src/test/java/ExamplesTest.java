@@ -1,4 +1,4 @@
-/** The four examples of the document, to the letter. */
+/** The four examples of the document and the one of README.md, to the letter. */
 public final class ExamplesTest {
 
     private static final Due due = new Due("ExamplesTest");
@@ -8,6 +8,7 @@ public final class ExamplesTest {
         outputsAndSum();
         notClosed();
         receivedNameAsChannel();
+        readme();
         due.end();
     }
 
@@ -61,5 +62,24 @@ public final class ExamplesTest {
         due.is("classCount(0)", c.classCount(0), 3);
         due.is("removeLast()", c.removeLast(), 3);
         due.is("classCount(0)", c.classCount(0), 2);
+    }
+
+    private static void readme() {
+        NamePassingComparer c = new NamePassingComparer();
+        int act = c.tau(0);
+        due.text(c, act, "t.0");
+        int one = c.input(0, act);
+        due.text(c, one, "a?.t.0");
+        int two = c.input(0, 0);
+        due.text(c, two, "a?.0");
+        int both = c.sum(one, two);
+        due.text(c, both, "(a?.t.0+a?.0)");
+        int some = c.input(0, c.match(3, 1, act));
+        due.text(c, some, "a?.[0=b]t.0");
+        int all = c.sum(both, some);
+        due.is("EARLY", c.areRelated(both, all, NamePassingComparer.EARLY), 1);
+        due.is("LATE", c.areRelated(both, all, NamePassingComparer.LATE), 0);
+        due.is("rounds", c.rounds(both, all, NamePassingComparer.LATE), 2);
+        due.is("firstAttack", c.firstAttack(both, all, NamePassingComparer.LATE), 1029);
     }
 }

@@ -8,7 +8,7 @@ import java.nio.file.Path;
 import java.util.Set;
 import java.util.TreeSet;
 
-/** The public face and the constants, and rules of LANGUAGE.md that the source itself shows. */
+/** The public face and the constants, in README.md too, and rules of LANGUAGE.md that the source shows. */
 public final class FaceTest {
 
     private static final Due due = new Due("FaceTest");
@@ -32,6 +32,7 @@ public final class FaceTest {
         nestedClasses();
         sizes();
         source();
+        readme();
         due.end();
     }
 
@@ -133,5 +134,21 @@ public final class FaceTest {
         due.holds("no lambda and no arrow", !code.contains("->"));
         due.holds("no method reference", !code.contains("::"));
         due.holds("no signs above 127", file.chars().allMatch(sign -> sign < 128));
+    }
+
+    /** README.md tells every call with all its arguments, and every error with its number. */
+    private static void readme() throws Exception {
+        String page = Files.readString(Path.of("README.md"), StandardCharsets.UTF_8);
+        for (String method : METHODS) {
+            String call = method.replaceAll("int", "\\\\w+").replace(",", ", ")
+                    .replace("(", "\\(").replace(")", "\\)");
+            due.holds("README.md tells " + method, page.matches("(?s).*\n\\| `" + call + "` \\|.*"));
+        }
+        for (String constant : CONSTANTS) {
+            if (constant.contains("=-")) {
+                String error = "\n| `" + constant.replace("=", "`, ") + " |";
+                due.holds("README.md tells " + constant, page.contains(error));
+            }
+        }
     }
 }
